@@ -1702,19 +1702,20 @@ public final class UphillCarts {
             return Math.min(STONES, Math.floorDiv(greatest[these] - weight, Math.max(1, road.stone)));
         }
 
+        /** Finds the LOAD that pays best; false if none is left. */
         boolean findBest() {
             boolean found = false;
             int best = 0;
             for (int some = 0; some < allGoods; some++) {
                 int gain = road.gainOf(some);
+                if (found && gain < best) {
+                    continue;
+                }
                 for (int these = 0; these < ALL_BAGS; these++) {
-                    if (!isLeft(these) || found && gain < best) {
+                    if (howManyStones(some, these) == 0) {
                         continue;
                     }
                     int fewest = fewestStones(weights[some], these);
-                    if (fewest > mostStones(weights[some], these)) {
-                        continue;
-                    }
                     // Those with less GOODS and BAGS came ahead, so a like one is no better.
                     if (!found || gain > best || fewest < stones) {
                         found = true;
@@ -1742,7 +1743,7 @@ public final class UphillCarts {
 
         private boolean canBeCarried(int some) {
             for (int these = 0; these < ALL_BAGS; these++) {
-                if (isLeft(these) && fewestStones(weights[some], these) <= mostStones(weights[some], these)) {
+                if (howManyStones(some, these) > 0) {
                     return true;
                 }
             }
@@ -1770,6 +1771,7 @@ public final class UphillCarts {
             return many;
         }
 
+        /** Finds the k-th by GOODS, BAGS, stones; false if there are not so many. */
         boolean findNumbered(int k) {
             int left = k;
             for (int some = 0; some < allGoods; some++) {
