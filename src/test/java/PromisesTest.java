@@ -196,6 +196,10 @@ public final class PromisesTest {
         Check.due("an error though less comes out", worked("1000*1000*1000*1001-9999"), Long.MIN_VALUE);
         Check.due("0 times", worked("0*(1000*1000*1000*1000)"), 0);
         Check.due("times 0", worked("(1000*1000*1000*1000)*0"), 0);
+        Check.due("63 nots", worked("not ".repeat(63) + "1"), 0);
+        Check.due("62 nots", worked("not ".repeat(62) + "1"), 1);
+        Check.due("all that can wait", worked("0 or 1 and not(".repeat(7) + "1<2*3" + ")".repeat(7)), 0);
+        Check.due("from the right", worked("1-(2-(3-(4-(5-(6-(7-(8-9)))))))"), 5);
         UphillCarts x = Check.of("bend a 3;bend b 20;horse 77 1;bag s 4 1;law pull size+slope*100;");
         Check.due("size of pull is STRONG", x.law(1, 0, 1, 0), 1777);
         Check.due("sort isn't looked at", x.law(1, -5, 1, 0), 1777);
@@ -204,6 +208,9 @@ public final class PromisesTest {
         Check.due("no such what", x.law(2, 0, 1, 0), Long.MIN_VALUE);
         Check.due("no such bend", x.law(1, 0, 2, 0), Long.MIN_VALUE);
         Check.due("no such hour", x.law(1, 0, 1, 24), Long.MIN_VALUE);
+        x = Check.of("bend a 3;bend b 20;bag s 4 1;law lift not size;law pull 5;");
+        Check.due("each law is its own", x.law(0, 0, 1, 0), 0);
+        Check.due("each law is its own", x.law(1, 0, 1, 0), 5);
         x = Check.of("bend a 3 wind 2;bag s 4 1;law lift 1-slope*9-gust*100;");
         Check.due("slope of the lowest is 0", x.law(0, 0, 0, 0), -199);
         Check.due("no such bag", x.law(0, 1, 0, 0), Long.MIN_VALUE);
@@ -736,7 +743,9 @@ public final class PromisesTest {
         x = Check.of("bend a 0;bend b 0;bend c 0;goods g 45 0 0;law pull 99*(hour=5);");
         x.load(0, true);
         x.at(23);
-        Check.due("29 + 1 hours: 5 comes twice", x.chance(1), 10);
+        Check.due("30 hours: 5 comes twice, the last of them", x.chance(1), 10);
+        x.at(22);
+        Check.due("once", x.chance(1), 0);
         x.at(0);
         Check.due("5 and 29: twice", x.chance(1), 10);
         x.at(5);
@@ -828,6 +837,7 @@ public final class PromisesTest {
         Check.due("20 at most", x.count(9), 20);
         for (int i = 19; i >= 0; i--) {
             Check.due("undo", x.undo(), i);
+            Check.due("hour", x.count(4), i + 3);
         }
         Check.due("hour", x.count(4), 3);
         Check.due("none left", x.undo(), -1);
