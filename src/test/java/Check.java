@@ -1,15 +1,25 @@
+import java.util.NoSuchElementException;
+import java.util.function.BooleanSupplier;
+import java.util.function.LongSupplier;
+
 /** What the project's tests share: telling a text, and counting the answers that are not as due. */
 final class Check {
     private static int asked = 0;
     private static int wrong = 0;
+    private static String words = "";
 
     private Check() { }
+
+    /** The words of the document that the answers asked for from now on are about. */
+    static void says(String sentence) {
+        words = "\"" + sentence + "\": ";
+    }
 
     static void due(String what, long got, long want) {
         asked++;
         if (got != want) {
             wrong++;
-            System.out.println(what + " answered " + got + ", due is " + want);
+            System.out.println(words + what + " answered " + got + ", due is " + want);
         }
     }
 
@@ -52,15 +62,60 @@ final class Check {
         due("'" + text + "' fault(1)", x.fault(1), place);
     }
 
-    /** What look() throws: 1 IndexOutOfBoundsException, 2 NoSuchElementException, 0 nothing. */
+    static void good(String text) {
+        fault(text, 0, -1);
+    }
+
+    /** A text whose fault is where the sign ^ stands, which is none of the text's own. */
+    static void faultAtMark(String text, int how) {
+        int place = text.indexOf('^');
+        fault(text.substring(0, place) + text.substring(place + 1), how, place);
+    }
+
+    /** All that can be seen of the cart and of what can be undone. */
+    static String state(UphillCarts x) {
+        StringBuilder b = new StringBuilder();
+        for (int what = 0; what <= 13; what++) {
+            b.append(x.count(what)).append(' ');
+        }
+        int bends = x.count(0);
+        for (int bend = 0; bend < bends; bend++) {
+            b.append(x.look(bend, 3)).append(' ');
+        }
+        return b.toString();
+    }
+
+    /** A call that must have this answer and leave all as it is. */
+    static void refused(UphillCarts x, String call, LongSupplier made, long answer) {
+        String before = state(x);
+        due(call, made.getAsLong(), answer);
+        String behind = state(x);
+        due(call + " leaves all as it is, " + before + "; " + behind, before.equals(behind), true);
+    }
+
+    static void refused(UphillCarts x, String call, BooleanSupplier made) {
+        refused(x, call, () -> made.getAsBoolean() ? 1 : 0, 0);
+    }
+
+    /** The numbers that are drawn from a seed on, one behind another. */
+    static int[] numbers(long seed, int n) {
+        int[] all = new int[n];
+        long last = seed;
+        for (int i = 0; i < n; i++) {
+            last = (last * 1103515245L + 12345L) % 2147483648L;
+            all[i] = (int) (last / 65536);
+        }
+        return all;
+    }
+
+    /** What look() throws: 1 IndexOutOfBoundsException, 2 NoSuchElementException, 3 another, 0 nothing. */
     static int thrownByLook(UphillCarts x, int bend, int what) {
         try {
             x.look(bend, what);
             return 0;
-        } catch (IndexOutOfBoundsException e) {
-            return 1;
-        } catch (java.util.NoSuchElementException e) {
-            return 2;
+        } catch (RuntimeException e) {
+            // None of a class below them: those are the machine's.
+            return e.getClass() == IndexOutOfBoundsException.class ? 1 : e.getClass() == NoSuchElementException.class ? 2 : 3;
         }
     }
 

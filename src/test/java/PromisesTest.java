@@ -324,20 +324,9 @@ public final class PromisesTest {
         Check.due("one bend", Check.of("bend a 0;").go(1), -1);
     }
 
-    /** The numbers of a seed, as the document has them. */
-    private static int[] numbers(long seed, int n) {
-        int[] all = new int[n];
-        long last = seed;
-        for (int i = 0; i < n; i++) {
-            last = (last * 1103515245L + 12345L) % 2147483648L;
-            all[i] = (int) (last / 65536);
-        }
-        return all;
-    }
-
     private static void thieves() {
         for (int seed = 0; seed < 50; seed++) {
-            int[] drawn = numbers(seed, 3);
+            int[] drawn = Check.numbers(seed, 3);
             UphillCarts x = Check.of("bend a 0;bend b 0;bend c 0;bend d 0;bag s 1 1;bag t 1 2;thief a 99;thief b 50;thief c 0;"
                 + "thief d 50;seed " + seed + ";");
             x.tie(0, 1);
@@ -353,7 +342,7 @@ public final class PromisesTest {
             Check.due("cut at d, seed " + seed, x.count(12), cut == 0 ? 9 : cut == 1 ? 8 : 4);
         }
         // A number is drawn though there is no bag.
-        int[] drawn = numbers(3, 2);
+        int[] drawn = Check.numbers(3, 2);
         UphillCarts x = Check.of("bend a 0;bend b 0;bend c 0;bag s 1 1;thief b 99;thief c 99;seed 3;");
         x.keep();
         x.go(2);
@@ -724,13 +713,13 @@ public final class PromisesTest {
         x.tie(0, 1);
         for (int seed = 0; seed < 30; seed++) {
             int safe = 0;
-            for (int number : numbers(seed, 10)) {
+            for (int number : Check.numbers(seed, 10)) {
                 safe += number % 100 >= 50 ? 1 : 0;
             }
             Check.due("chance(" + seed + ")", x.chance(seed), safe);
         }
         int safe = 0;
-        for (int number : numbers(Integer.MAX_VALUE, 10)) {
+        for (int number : Check.numbers(Integer.MAX_VALUE, 10)) {
             safe += number % 100 >= 50 ? 1 : 0;
         }
         Check.due("the greatest seed", x.chance(Integer.MAX_VALUE), safe);
