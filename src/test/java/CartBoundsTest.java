@@ -37,6 +37,7 @@ public final class CartBoundsTest {
         imageKeeps();
         imagesInPlace();
         counts();
+        manyCalls();
         Check.end("CartBoundsTest");
     }
 
@@ -1071,6 +1072,24 @@ public final class CartBoundsTest {
         Check.says("NONE for another what.");
         for (int what : beyond(0, 13)) {
             Check.due("count(" + what + ")", x.count(what), -1);
+        }
+    }
+
+    private static void manyCalls() {
+        Check.says("An object is used for at most 512 calls after it has been made");
+        UphillCarts x = new UphillCarts();
+        for (int call = 1; call <= 511; call++) {
+            Check.due("at, call " + call, x.at(call % 2), true);
+        }
+        Check.due("the 512th", x.count(9), 20);
+        UphillCarts y = new UphillCarts();
+        for (int call = 1; call <= 512; call += 2) {
+            Check.due("feed, call " + call, y.feed(0x20202020, 0x20202020, 0x20202020, 0x20202020, 0x20202020), 20);
+            Check.due("text, call " + (call + 1), y.text(20), 0);
+        }
+        UphillCarts z = new UphillCarts();
+        for (int call = 1; call <= 512; call++) {
+            Check.due("fits, call " + call, z.fits(), 10);
         }
     }
 }
