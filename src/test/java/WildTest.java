@@ -1,5 +1,8 @@
 import java.lang.reflect.InvocationTargetException;
 import java.lang.reflect.Method;
+import java.lang.reflect.Modifier;
+import java.util.Arrays;
+import java.util.Comparator;
 import java.util.NoSuchElementException;
 
 /** Any arguments in any state: no call throws but look(), and that only what the document names. */
@@ -51,7 +54,7 @@ public final class WildTest {
     }
 
     private static void call(UphillCarts x, Method m, Object[] with) throws Exception {
-        String told = m.getName() + java.util.Arrays.toString(with);
+        String told = m.getName() + Arrays.toString(with);
         try {
             m.invoke(x, with);
             Check.due(told, 0, 0);
@@ -63,10 +66,10 @@ public final class WildTest {
     }
 
     public static void main(String[] args) throws Exception {
-        for (Method m : UphillCarts.class.getDeclaredMethods()) {
-            if (!java.lang.reflect.Modifier.isPublic(m.getModifiers())) {
-                continue;
-            }
+        // By name, as the machine tells them in any order, and a test asks the same each time.
+        Method[] all = Arrays.stream(UphillCarts.class.getDeclaredMethods()).filter(m -> Modifier.isPublic(m.getModifiers()))
+            .sorted(Comparator.comparing(Method::getName)).toArray(Method[]::new);
+        for (Method m : all) {
             int times = m.getParameterCount() < 2 ? 1 : m.getParameterCount();
             for (int state = 0; state < STATES; state++) {
                 for (int time = 0; time < times; time++) {
@@ -82,14 +85,11 @@ public final class WildTest {
             }
         }
         // All methods in one run, so that they meet states that none of the above has.
-        Method[] all = UphillCarts.class.getDeclaredMethods();
         for (int run = 0; run < 300; run++) {
             UphillCarts x = inState(run % STATES);
             for (int i = 0; i < CALLS; i++) {
                 Method m = all[any(all.length)];
-                if (java.lang.reflect.Modifier.isPublic(m.getModifiers())) {
-                    call(x, m, arguments(m));
-                }
+                call(x, m, arguments(m));
             }
         }
         Check.end("WildTest");
