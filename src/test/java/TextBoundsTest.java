@@ -389,6 +389,11 @@ public final class TextBoundsTest {
         for (String first : new String[] {"^1", "^size", "^not 1", "(^1)"}) {
             Check.faultAtMark(full + ";law pull " + first + ";", 2);
         }
+        // As many as can wait for what they join.
+        String waiting = "law lift " + "(".repeat(8) + "not ".repeat(63);
+        Check.good(waiting + "1" + ")".repeat(8) + ";");
+        Check.faultAtMark(waiting + "not ^1" + ")".repeat(8) + ";", 2);
+        Check.faultAtMark(waiting + "not ^not 1" + ")".repeat(8) + ";", 2);
         Check.due("brackets are none", Check.of("law lift ((((1))))+(1);").count(3), 3);
         Check.due("none", Check.of("rope 1;").count(3), 0);
         Check.due("each sort", Check.of("law pull not 1+size*2-air/3<=4 and 5<>6 or hour>=7;").count(3), 20);
