@@ -1634,6 +1634,7 @@ public final class UphillCarts {
         private final int[] weights = new int[ALL_GOODS];
         private Road road;
         private int allGoods;
+        private int allBags;
         int goods;
         int bags;
         int stones;
@@ -1645,10 +1646,11 @@ public final class UphillCarts {
         private void leaveAll(Road itsRoad) {
             road = itsRoad;
             allGoods = 1 << road.goods;
+            allBags = 1 << 2 * road.sorts;
             for (int these = 0; these < allGoods; these++) {
                 weights[these] = road.weightOf(these);
             }
-            for (int these = 0; these < ALL_BAGS; these++) {
+            for (int these = 0; these < allBags; these++) {
                 boolean are = road.hasBags(these);
                 least[these] = are ? -FAR : FAR;
                 greatest[these] = are ? FAR : -FAR;
@@ -1669,7 +1671,7 @@ public final class UphillCarts {
             for (int bend = 0; bend < road.bends; bend++) {
                 int then = (hour + bend) % HOURS;
                 int pulled = bend == 0 ? FAR : forces.pulled(bend, then);
-                for (int these = 0; these < ALL_BAGS; these++) {
+                for (int these = 0; these < allBags; these++) {
                     if (isLeft(these)) {
                         int lifted = forces.bagsLift(these, bend, then);
                         narrow(these, lifted - road.holds, lifted + pulled);
@@ -1685,7 +1687,7 @@ public final class UphillCarts {
                 if (seen.isStrike(i) || seen.struck[i]) {
                     continue;
                 }
-                for (int these = 0; these < ALL_BAGS; these++) {
+                for (int these = 0; these < allBags; these++) {
                     if (isLeft(these)) {
                         int lifted = forces.bagsLift(these, seen.bend[i], seen.hour[i]);
                         narrow(these, seen.low[i] + lifted, seen.high[i] + lifted);
@@ -1711,7 +1713,7 @@ public final class UphillCarts {
                 if (found && gain < best) {
                     continue;
                 }
-                for (int these = 0; these < ALL_BAGS; these++) {
+                for (int these = 0; these < allBags; these++) {
                     if (howManyStones(some, these) == 0) {
                         continue;
                     }
@@ -1742,7 +1744,7 @@ public final class UphillCarts {
         }
 
         private boolean canBeCarried(int some) {
-            for (int these = 0; these < ALL_BAGS; these++) {
+            for (int these = 0; these < allBags; these++) {
                 if (howManyStones(some, these) > 0) {
                     return true;
                 }
@@ -1764,7 +1766,7 @@ public final class UphillCarts {
                 if ((some & with) != with) {
                     continue;
                 }
-                for (int these = 0; these < ALL_BAGS; these++) {
+                for (int these = 0; these < allBags; these++) {
                     many += howManyStones(some, these);
                 }
             }
@@ -1775,7 +1777,7 @@ public final class UphillCarts {
         boolean findNumbered(int k) {
             int left = k;
             for (int some = 0; some < allGoods; some++) {
-                for (int these = 0; these < ALL_BAGS; these++) {
+                for (int these = 0; these < allBags; these++) {
                     int many = howManyStones(some, these);
                     if (left < many) {
                         goods = some;
